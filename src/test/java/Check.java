@@ -10,6 +10,7 @@ final class Check {
 
     private static int wrong = 0;
     private static int made = 0;
+    private static String about = "";
 
     private Check() {
     }
@@ -36,9 +37,18 @@ final class Check {
         if (!want.equals(got)) {
             wrong++;
             if (wrong <= 50) {
-                System.out.println(what + ": answered [" + got + "], due is [" + want + "]");
+                System.out.println(about + what + ": answered [" + got + "], due is [" + want + "]");
             }
         }
+    }
+
+    /** Wrong answers are told with this before them. */
+    static void about(String whose) {
+        about = whose;
+    }
+
+    static int made() {
+        return made;
     }
 
     static void finish() {
@@ -75,7 +85,8 @@ final class Check {
 
     static String page(ProtocolText x) {
         StringBuilder page = new StringBuilder();
-        for (int i = 0; i < x.count(9); i++) {
+        int bytes = x.count(9);
+        for (int i = 0; i < bytes; i++) {
             page.append((char) x.out(i));
         }
         return page.toString();
@@ -93,6 +104,26 @@ final class Check {
         String page = page(x);
         same("draw() against the bytes out", Integer.toString(page.length()), Integer.toString(bytes));
         return page;
+    }
+
+    /** A bar stands before the lexeme that has the fault. */
+    static void faulty(int fault, String marked) {
+        ProtocolText x = reading("state before; ask some;");
+        feedText(x, marked.replace("|", ""));
+        due("read() of " + marked, ARGUMENT, () -> x.read());
+        due("fault(0) of " + marked, fault, () -> x.fault(0));
+        due("fault(1) of " + marked, marked.indexOf('|'), () -> x.fault(1));
+        due("count(0) behind " + marked, 0, () -> x.count(0));
+        nothingRead("behind " + marked, x);
+    }
+
+    static void sound(int rules, String text) {
+        ProtocolText x = new ProtocolText();
+        feedText(x, text);
+        due("read() of " + text, rules, () -> x.read());
+        due("fault(0) of " + text, 0, () -> x.fault(0));
+        due("fault(1) of " + text, 0, () -> x.fault(1));
+        due("count(0) behind " + text, 0, () -> x.count(0));
     }
 
     /** Every count of a table of which nothing was read. */

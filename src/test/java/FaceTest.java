@@ -8,9 +8,20 @@ import java.util.TreeSet;
 /** The public face: the members that the document tells, and no others. */
 public final class FaceTest {
     private static final Set<String> FACE = Set.of(
-        "int feed(int,int,int,int)", "int end(int)", "int read()", "int fault(int)", "int next(int,int)",
-        "int action(int,int,int)", "int missing(int)", "int reached(int,int)", "int message(int)", "int print()",
-        "int draw()", "int out(int)", "int again()", "int count(int)");
+        "int feed(int,int,int,int) throws [IllegalStateException]",
+        "int end(int) throws [IllegalArgumentException, IllegalStateException]",
+        "int read() throws [IllegalArgumentException]",
+        "int fault(int) throws [IndexOutOfBoundsException]",
+        "int next(int,int) throws [IndexOutOfBoundsException]",
+        "int action(int,int,int) throws [IndexOutOfBoundsException]",
+        "int missing(int) throws [IndexOutOfBoundsException]",
+        "int reached(int,int) throws [IndexOutOfBoundsException]",
+        "int message(int) throws [IndexOutOfBoundsException]",
+        "int print() throws []",
+        "int draw() throws []",
+        "int out(int) throws [IndexOutOfBoundsException]",
+        "int again() throws [IllegalStateException]",
+        "int count(int) throws []");
 
     public static void main(String[] args) {
         Set<String> seen = new TreeSet<>();
@@ -45,6 +56,10 @@ public final class FaceTest {
         for (Class<?> type : method.getParameterTypes()) {
             told.append(told.charAt(told.length() - 1) == '(' ? "" : ",").append(type);
         }
-        return told.append(")").toString();
+        Set<String> thrown = new TreeSet<>();
+        for (Class<?> type : method.getExceptionTypes()) {
+            thrown.add(type.getSimpleName());
+        }
+        return told.append(") throws ").append(thrown).toString();
     }
 }

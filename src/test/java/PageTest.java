@@ -1,7 +1,5 @@
 /** Promises 11 to 14: printing, drawing, the bytes, and reading them again. */
 public final class PageTest {
-    private static final String EVENTS = "q,r,s,t,u,v,w,x";
-
     public static void main(String[] args) {
         printing();
         drawing();
@@ -73,27 +71,9 @@ public final class PageTest {
         Check.due("reading leaves its bytes", 'b', () -> x.out(2));
     }
 
-    /** As many rules as there can be, each as short as it can be: a text of at most 4096 that prints longer. */
-    private static String denseText() {
-        StringBuilder text = new StringBuilder("state a,b,c,d,e,f,g,h,i,j,k,l,m,n,o,p;ask " + EVENTS + ";message y,z");
-        String[] events = (EVENTS + ",y,z,aa,ab,ac,ad,ae,af,ag,ah,ai,aj,ak,al,am,an").split(",");
-        for (int i = 10; i < 24; i++) {
-            text.append(",").append(events[i]);
-        }
-        text.append(";");
-        int written = 0;
-        for (char state = 'a'; state <= 'p'; state++) {
-            for (int event = 0; event < 24 && text.length() + 11 <= 4096; event++) {
-                text.append("on ").append(state).append(" ").append(events[event]).append(":>a;");
-                written++;
-            }
-        }
-        Check.same("the dense text holds nearly all rules", "true", "" + (written > 350));
-        return text.toString();
-    }
-
     private static void longestPrinting() {
-        ProtocolText x = Check.reading(denseText());
+        ProtocolText x = Check.reading(Texts.dense());
+        Check.same("nearly all pairs have a rule", "true", "" + (x.count(4) > 350));
         String printed = Check.printed(x);
         Check.same("it prints longer than a text", "true", "" + (printed.length() > 4096));
         Check.same("whole", "\n", printed.substring(printed.length() - 1));
@@ -105,64 +85,23 @@ public final class PageTest {
     }
 
     private static void longestDrawing() {
-        StringBuilder text = new StringBuilder();
-        String[] sorts = {"state", "ask", "message"};
-        for (int sort = 0; sort < 3; sort++) {
-            for (int i = 0; i < (sort == 1 ? 8 : 16); i++) {
-                text.append(sorts[sort]).append(" ").append(name(sort, i)).append(";");
-            }
-        }
-        ProtocolText empty = Check.reading(text.toString());
+        ProtocolText empty = Check.reading(Texts.longestNames());
         Check.due("all missing", 17 * 313 - 11 * 16, () -> empty.draw() - 17 * 12);
-        for (int state = 0; state < 16; state++) {
-            text.append("on ").append(name(0, state)).append(" ").append(name(2, 15)).append(":>").append(name(0, 0)).append(";");
-        }
-        ProtocolText x = Check.reading(text.toString());
+        ProtocolText x = Check.reading(Texts.longestDrawing());
         Check.due("as long as can be", 17 * 325, () -> x.draw());
         Check.due("its last byte", '\n', () -> x.out(17 * 325 - 1));
         Check.due("the byte before", 'x', () -> x.out(17 * 325 - 2));
         Check.due("again()", Check.STATE, () -> x.again());
     }
 
-    private static String name(int sort, int i) {
-        return "abc".substring(sort, sort + 1) + (char) ('a' + i) + "xxxxxxxxxx";
-    }
-
     private static void justShortEnough() {
-        ProtocolText x = Check.reading(compact(printing(4096)));
+        ProtocolText x = Check.reading(Texts.compact(Texts.printing(4096)));
         Check.due("print() of 4096", 4096, () -> x.print());
         Check.due("again() of 4096", 4096, () -> x.again());
         Check.due("read() of 4096", x.count(4), () -> x.read());
-        Check.same("printed as it was", printing(4096), Check.printed(x));
-        ProtocolText y = Check.reading(compact(printing(4097)));
+        Check.same("printed as it was", Texts.printing(4096), Check.printed(x));
+        ProtocolText y = Check.reading(Texts.compact(Texts.printing(4097)));
         Check.due("print() of 4097", 4097, () -> y.print());
         Check.due("again() of 4097", Check.STATE, () -> y.again());
-    }
-
-    /** A printing of so many bytes: rules as long as fit, and messages whose names fill the rest. */
-    private static String printing(int bytes) {
-        String head = "state a, b, c, d, e, f, g, h, i, j, k, l, m, n, o, p;\nask " + EVENTS.replace(",", ", ") + ";\n";
-        StringBuilder rules = new StringBuilder("first a;\n");
-        int left = bytes - head.length() - rules.length() - "message ;\n".length();
-        for (int i = 0; left > 80; i++) {
-            String rule = "on " + (char) ('a' + i / 8) + " " + (char) ('q' + i % 8) + ": take, keep, take, keep > a;\n";
-            rules.append(rule);
-            left -= rule.length();
-        }
-        StringBuilder names = new StringBuilder();
-        for (int i = 0; left > 0; i++) {
-            int letters = left > 24 ? 10 : left > 12 ? 6 : left;
-            names.append("z").append((char) ('a' + i)).append("xxxxxxxxxx", 0, letters - 2);
-            left -= letters;
-            if (left > 0) {
-                names.append(", ");
-                left -= 2;
-            }
-        }
-        return head + "message " + names + ";\n" + rules;
-    }
-
-    private static String compact(String printing) {
-        return printing.replace("\n", "").replace(", ", ",").replace(": ", ":").replace(" > ", ">");
     }
 }

@@ -134,12 +134,7 @@ public final class TableTest {
     }
 
     private static void largest() {
-        StringBuilder text = new StringBuilder("state a,b,c,d,e,f,g,h,i,j,k,l,m,n,o,p;ask q,r,s,t,u,v,w,x;message y,z");
-        for (int i = 1; i < 15; i++) {
-            text.append(",").append((char) ('a' + i)).append("0");
-        }
-        text.append(";");
-        ProtocolText x = Check.reading(text.toString());
+        ProtocolText x = Check.reading(Texts.ALL_NAMES);
         Check.due("largest: missing pairs", 384, () -> x.count(6));
         Check.due("largest: of reached states", 24, () -> x.count(7));
         for (int k = 0; k < 384; k++) {
