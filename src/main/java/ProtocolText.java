@@ -472,6 +472,11 @@ public final class ProtocolText {
             return pairOfSlots(state, names.slotOfEvent(event));
         }
 
+        int goalOf(int state, int event) {
+            int pair = pairOf(state, event);
+            return pair == NONE ? NONE : goals[pair];
+        }
+
         int actionOf(int pair, int i) {
             return i < ACTIONS_MAX ? actions[pair * ACTIONS_MAX + i] : NONE;
         }
@@ -552,7 +557,7 @@ public final class ProtocolText {
             int before = 0;
             for (int state = 0; state < names.states(); state++) {
                 for (int event = 0; event < names.events(); event++) {
-                    if (goals[pairOf(state, event)] == NONE) {
+                    if (goalOf(state, event) == NONE) {
                         if (before == k) {
                             return state * STATE_FACTOR + event;
                         }
@@ -576,7 +581,7 @@ public final class ProtocolText {
         private int missingPairsOf(int state) {
             int found = 0;
             for (int event = 0; event < names.events(); event++) {
-                if (goals[pairOf(state, event)] == NONE) {
+                if (goalOf(state, event) == NONE) {
                     found++;
                 }
             }
@@ -847,8 +852,8 @@ public final class ProtocolText {
 
         private void printPair(int state, int event) {
             int pair = table.pairOf(state, event);
-            int goal = table.goals[pair];
-            if (goal == NONE) {
+            int goal = table.goalOf(state, event);
+            if (pair == NONE || goal == NONE) {
                 return;
             }
             page.addText(goal == NEVER ? "never " : "on ");
@@ -919,7 +924,7 @@ public final class ProtocolText {
         private int widthOf(int event) {
             int width = Math.max(1, names.lengthOf(names.slotOfEvent(event)));
             for (int state = 0; state < names.states(); state++) {
-                int goal = table.goals[table.pairOf(state, event)];
+                int goal = table.goalOf(state, event);
                 if (goal >= 0) {
                     width = Math.max(width, names.lengthOf(goal));
                 }
@@ -940,7 +945,7 @@ public final class ProtocolText {
             drawName(state, firstWidth);
             for (int event = 0; event < names.events(); event++) {
                 page.add(BLANK);
-                drawGoal(table.goals[table.pairOf(state, event)], widths[event]);
+                drawGoal(table.goalOf(state, event), widths[event]);
             }
             endLine();
         }

@@ -1,7 +1,10 @@
+import java.io.IOException;
 import java.lang.reflect.Constructor;
 import java.lang.reflect.Field;
 import java.lang.reflect.Method;
 import java.lang.reflect.Modifier;
+import java.nio.file.Files;
+import java.nio.file.Path;
 import java.util.Set;
 import java.util.TreeSet;
 
@@ -23,7 +26,7 @@ public final class FaceTest {
         "int again() throws [IllegalStateException]",
         "int count(int) throws []");
 
-    public static void main(String[] args) {
+    public static void main(String[] args) throws IOException {
         Set<String> seen = new TreeSet<>();
         Set<String> hidden = new TreeSet<>();
         for (Method method : ProtocolText.class.getDeclaredMethods()) {
@@ -48,7 +51,24 @@ public final class FaceTest {
         Check.same("the constructor", "public ProtocolText()", made[0].toString());
         Check.same("final", "true", "" + Modifier.isFinal(ProtocolText.class.getModifiers()));
         Check.due("NONE", -1, () -> ProtocolText.NONE);
+        asTheDocumentWrites();
         Check.finish();
+    }
+
+    /** Word for word, the parameters' names too, which the compiled class does not tell. */
+    private static void asTheDocumentWrites() throws IOException {
+        String document = Files.readString(Path.of("../shared/DOC.md"));
+        String source = Files.readString(Path.of("src/main/java/ProtocolText.java"));
+        String face = document.substring(document.indexOf("```java") + 7, document.lastIndexOf("```"));
+        int members = 0;
+        for (String line : face.split("\n")) {
+            if (line.startsWith("    public ")) {
+                members++;
+                String due = line.endsWith(");") || line.contains(" throws ") ? line.replace(";", " {") : line;
+                Check.same(line + " stands in the source", "true", "" + source.contains("\n" + due + "\n"));
+            }
+        }
+        Check.same("members that the document writes", "" + (FACE.size() + 2), "" + members);
     }
 
     private static String told(Method method) {

@@ -1,4 +1,4 @@
-/** Promises 1 to 3, and how long an object is used. */
+/** Promises 1 to 3. */
 final class FeedSentences {
     private static final String NEW = "Promise 1: A new object";
     private static final String FEED = "Promise 2: feed";
@@ -10,24 +10,8 @@ final class FeedSentences {
 
     static void run() {
         Doc.each(
-            FeedSentences::calls, FeedSentences::newObject, FeedSentences::sixteenBytes, FeedSentences::tooLong,
+            FeedSentences::newObject, FeedSentences::sixteenBytes, FeedSentences::tooLong,
             FeedSentences::lastSixteen, FeedSentences::noSuchNumber, FeedSentences::lessThanSixteen);
-    }
-
-    private static void calls() {
-        Doc.sentence("What it is",
-            "An object is used for at most 512 calls after it has been made; what later calls answer is free.");
-        ProtocolText x = new ProtocolText();
-        for (int call = 1; call <= 255; call++) {
-            x.feed(BLANKS, BLANKS, BLANKS, BLANKS);
-        }
-        x.feed(BLANKS, BLANKS, 0x73746174, 0x6520613b);
-        Check.due("call 257", 0, () -> x.read());
-        x.print();
-        for (int call = 259; call <= 511; call++) {
-            x.again();
-        }
-        Check.due("call 512", 0, () -> x.read());
     }
 
     private static void newObject() {

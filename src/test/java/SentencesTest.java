@@ -1,7 +1,8 @@
-/** Every sentence of the document's terms and promises, each by a test of its own at the edges that it names. */
+/** Every sentence of the document up to its last promise, each by a test of its own at the edges that it names. */
 public final class SentencesTest {
     public static void main(String[] args) {
         Doc.open();
+        WholeSentences.run();
         LexemeSentences.run();
         GrammarSentences.run();
         FaultSentences.run();
